@@ -96,7 +96,7 @@ public final class FaceTest {
         String[] ruledOut = {"\\btry\\b", "\\bcatch\\b", "\\bfinally\\b", "\\bsynchronized\\b", "\\bassert\\b", "->",
             "::", "\\bstatic\\s*\\{", "\\bpackage\\b", "Exact\\s*\\(", "\\bdouble\\b", "\\bfloat\\b", "\\bThread\\b",
             "\\bRandom\\b", "System\\.(?!arraycopy)", "\\bordinal\\b", "\\bhashCode\\b", "\\.equals\\b", "\\.length\\s*\\[",
-            "\\bwhile\\s*\\(true\\)", "\\bobject\\b", "\\blambda\\b"};
+            "\\bwhile\\s*\\(true\\)"};
         for (String pattern : ruledOut) {
             Check.due("source has " + pattern, Pattern.compile(pattern).matcher(code).find() ? 1 : 0, 0);
         }

@@ -89,6 +89,11 @@ public final class ForecastTest {
         // By 30: 30, 60, 90, 120, 150: with 91 up to 99 above is 130 by 120, late at 150.
         Check.due("leastTarget(30)", x.leastTarget(30), -2);
         Check.due("the target stays", x.count(11), 5);
+        for (int i = 6; i < 9; i++) {
+            x.come(1, 100, 0);
+        }
+        // By 14: .., 98, 112. Up to 98 above is 108 then, by 99 it is 122.
+        Check.due("leastTarget(14)", x.leastTarget(14), 99);
     }
 
     private static void bestQuantums() {
@@ -118,8 +123,25 @@ public final class ForecastTest {
         Check.due("the quantum stays", x.count(13), 300);
         Check.due("of none", new QueueKeeper().bestQuantum(5), 50);
 
-        // Deficits as they are, 200 each: key 1 sends its 1500 first, and 100 more only later
-        // if its deficit takes a while to be above 0; then key 5 is ahead.
+        // A frame of key 1 takes 5, one of key 5 takes 6, so all of key 1 should go ahead of the
+        // second of key 5: behind the first ones 9 of 50 bytes are left, and key 1 is first.
+        QueueKeeper v = Check.keeper("target 99;rate 10;quantum 50;");
+        for (int i = 0; i < 10; i++) {
+            v.come(1, 50, 0);
+        }
+        v.come(5, 60, 0);
+        v.come(5, 60, 0);
+        Check.due("nine at a time", v.bestQuantum(0), 450);
+        QueueKeeper w = Check.keeper("target 99;interval 999;rate 10;quantum 50;");
+        for (int i = 0; i < 31; i++) {
+            w.come(1, 100, 0);
+        }
+        w.come(5, 110, 0);
+        w.come(5, 110, 0);
+        Check.due("thirty at a time, with a deficit of -50", w.bestQuantum(0), 3000);
+
+        // Deficits are 200 at first, whatever is tried: key 1 sends 1500, and its deficit of -1300
+        // takes so many rounds that both of key 5 are ahead of its second one.
         QueueKeeper z = Check.keeper("target 99;quantum 200;come 1 1500 0;come 1 1500 0;come 5 10 0;come 5 10 0;");
         z.settle(5, 100);
         Check.due("all of 5 ahead of the second of 1", z.bestQuantum(0), 50);

@@ -128,6 +128,8 @@ public final class SendersTest {
         QueueKeeper y = Check.keeper("limit 3;sender 1 9 20 1 0;sender 2 9 20 1 0;sender 3 9 20 1 0;"
             + "sender 4 9 20 1 0;");
         Check.due("80 at once are too many for each limit", y.leastLimit(1), -2);
+        QueueKeeper w = Check.keeper("sender 1 9 20 1 0;sender 2 9 20 1 0;sender 3 9 20 1 0;");
+        Check.due("60 at once", w.leastLimit(1), 60);
         QueueKeeper z = Check.keeper("come 1 1 0;come 1 1 0;");
         Check.due("none comes", z.leastLimit(9), 1);
     }
@@ -165,6 +167,14 @@ public final class SendersTest {
                 Check.due("the target stays", x.count(11), 5);
             }
         }
+        QueueKeeper z = Check.keeper("interval 10;quantum 3000;sets 1;ways 1;");
+        for (int i = 0; i < 11; i++) {
+            z.come(1, 10, 0);
+        }
+        z.pass(98);
+        // Up to 98 above is 108, where the 11th is dropped; by 99 above is 109.
+        Check.due("bestTarget(11)", z.bestTarget(11), 99);
+        Check.due("bestTarget(10)", z.bestTarget(10), 1);
     }
 
     private static void refusing() {

@@ -14,6 +14,7 @@ public final class TextTest {
         faultsToldAlready();
         theFirstFaultCounts();
         refusedTextChangesNothing();
+        textForgetsAll();
         Check.finish("TextTest");
     }
 
@@ -178,6 +179,7 @@ public final class TextTest {
         due("sender 9999 1500 20 99 1;", 0, NONE);
         due("sender 10000 1 1 1 0;", 2, 7);
         due("sender 0 0 1 1 0;", 2, 9);
+        due("sender 0 1501 1 1 0;", 2, 9);
         due("sender 0 1 0 1 0;", 2, 11);
         due("sender 0 1 21 1 0;", 2, 11);
         due("sender 0 1 1 0 0;", 2, 13);
@@ -206,6 +208,36 @@ public final class TextTest {
         due("limit ;limit 61;", 1, 6);
         due("sender 8 1 1 1 0;sender 8 1501 1 1 0;", 3, 24);
         due("pass 1000", 2, 5);
+    }
+
+    /** What a keeper was before a text is nothing to it. */
+    private static void textForgetsAll() {
+        String busy = "target 1;interval 10;limit 9;sets 4;ways 4;sender 7 90 20 3 0;sender 2 40 9 5 1;run 60;";
+        String next = "sender 4 30 3 2 1;sender 8 400 2 2 0;come 3 20 0;run 7;";
+        QueueKeeper used = Check.keeper(busy);
+        used.watch(0, 0);
+        used.run(9);
+        Check.text(used, next);
+        QueueKeeper fresh = Check.keeper(next);
+        used.watch(0, 0);
+        fresh.watch(0, 0);
+        used.run(5);
+        fresh.run(5);
+        for (int what = 0; what < 20; what++) {
+            Check.due("count(" + what + ") of a used one", used.count(what), fresh.count(what));
+        }
+        for (int k = 0; k < 4; k++) {
+            Check.dueRow("bucket " + k + " of a used one", Check.bucketRow(used, k), Check.bucketRow(fresh, k));
+            Check.due("order(" + k + ") of a used one", used.order(k), fresh.order(k));
+        }
+        for (int k = 0; k < 3; k++) {
+            Check.dueRow("sender " + k + " of a used one", Check.senderRow(used, k), Check.senderRow(fresh, k));
+        }
+        for (int f = 0; f <= fresh.count(1); f++) {
+            Check.dueRow("frame " + f + " of a used one", Check.frameRow(used, f), Check.frameRow(fresh, f));
+        }
+        Check.due("watched(0) of a used one", used.watched(0), fresh.watched(0));
+        Check.due("ifRun of a used one", used.ifRun(100, 4), fresh.ifRun(100, 4));
     }
 
     private static void refusedTextChangesNothing() {
