@@ -5,6 +5,7 @@ public final class SendersTest {
     public static void main(String[] args) {
         growing();
         cutting();
+        hearingLate();
         markedOnesCut();
         windowHasBounds();
         twoSenders();
@@ -52,6 +53,14 @@ public final class SendersTest {
         Check.due("firstCut(1)", x.firstCut(1), 1);
         x.run(1);
         Check.dueRow("at 7", Check.senderRow(x, 0), 9, 100, 205, 3, 0, 2, 2, 6, 6);
+    }
+
+    private static void hearingLate() {
+        QueueKeeper x = Check.keeper("limit 1;sets 1;ways 1;sender 9 100 4 3 0;run 1;");
+        x.pass(50);
+        x.run(1);
+        Check.due("it is cut as it hears, not as it might have", x.sender(0, 7), 51);
+        Check.due("of all four", x.sender(0, 8), 4);
     }
 
     private static void markedOnesCut() {

@@ -145,6 +145,10 @@ public final class TextTest {
         due("pass -3;", 1, 5);
         due("pass 3\t;", 1, 6);
         due("pass 3,", 1, 6);
+        due("pass 5x;", 1, 6);
+        due("pass 5A;", 1, 6);
+        due("Pass 5;", 1, 0);
+        due("pasS 5;", 1, 0);
         due("come 1 1;", 1, 8);
         due("sender 1 1 1 1;", 1, 14);
         due("sender 1 1 1 1 1 1;", 1, 17);
