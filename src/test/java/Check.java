@@ -5,14 +5,21 @@ final class Check {
     private static int wrong = 0;
     private static int made = 0;
 
+    /** What wrong answers are told under: the sentence of the document that is at stake. */
+    private static String heading = "";
+
     private Check() {
+    }
+
+    static void under(String sentence) {
+        heading = sentence + ": ";
     }
 
     static void due(String call, long got, long want) {
         made++;
         if (got != want) {
             wrong++;
-            System.out.println(call + " answered " + got + ", due is " + want);
+            System.out.println(heading + call + " answered " + got + ", due is " + want);
         }
     }
 
