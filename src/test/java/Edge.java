@@ -180,8 +180,30 @@ abstract class Edge {
         for (int k = 0; k < x.count(10); k++) {
             tale.add("watched(" + k + ") " + x.watched(k));
         }
+        for (int what = 0; what < 4; what++) {
+            for (int i = 0; i == 0 || x.past(what, i - 1) >= 0; i++) {
+                tale.add("past(" + what + ", " + i + ") " + x.past(what, i));
+            }
+        }
+        tale.add("uneven " + x.uneven() + ", within " + x.within(0, 9999999) + ", middle " + x.middle());
         tale.add("fault " + x.fault(0) + " " + x.fault(1) + ", shared " + x.shared());
         return tale;
+    }
+
+    /** Some calls of every kind that changes a keeper. */
+    static void use(QueueKeeper x) {
+        x.come(5, 200, 0);
+        x.come(6, 40, 1);
+        x.come(5, 300, 0);
+        x.come(2, 70, 1);
+        x.pass(7);
+        x.go();
+        x.go();
+        x.come(3, 10, 0);
+        x.run(2);
+        x.pass(120);
+        x.come(4, 500, 0);
+        x.go();
     }
 
     /** Two keepers of which each question tells the same. */

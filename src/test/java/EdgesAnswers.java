@@ -417,6 +417,10 @@ final class EdgesAnswers extends Edge {
             is("16", x.leastTarget(5), 16);
             is("e 0", x.leastTarget(0), 1);
             is("e 1", x.leastTarget(1), 1);
+            QueueKeeper one = keeper("interval 10;quantum 3000;sets 1;ways 1;");
+            come(one, 14, 1, 9, may);
+            // By 1: 0, 1, .., 13. Up to 3 ABOVE is 13 or less; by 4 it is 14.
+            is("4", one.leastTarget(1), 4);
             come(x, 3, 1, 9, may);
             // By 14: .., 84, 98, 112. If 98 is TARGET or more, ABOVE is 108.
             is("99", x.leastTarget(14), 99);

@@ -150,6 +150,14 @@ final class EdgesBuckets extends Edge {
         z.come(3, 10, 0);
         Check.dueRow("the last of NEW is ahead of OLD", new int[] {z.order(0), z.order(1), z.order(2), z.order(3)},
             2, 1, 0, -2);
+        // NEW is empty, OLD is 2, 0.
+        QueueKeeper w = keeper("quantum 100;come 5 100 0;come 5 10 0;come 1 100 0;come 1 10 0;go 3;");
+        Check.dueRow("OLD", new int[] {w.order(0), w.order(1), w.bucket(2, 4), w.bucket(0, 4)}, 2, 0, 2, 2);
+        w.come(3, 10, 0);
+        Check.dueRow("the only one of NEW", new int[] {w.order(0), w.order(1), w.order(2), w.order(3)}, 1, 2, 0, -2);
+        w.come(7, 10, 0);
+        Check.dueRow("the last of NEW", new int[] {w.order(0), w.order(1), w.order(2), w.order(3), w.order(4)},
+            1, 3, 2, 0, -2);
     }
 
     private static void keyModuloWays() {

@@ -8,6 +8,7 @@ final class EdgesRefusals extends Edge {
     static void all() {
         twoHundredFrames();
         questionsChangeNothing();
+        trialsTellWhatWillBe();
         noneGoesFirst();
         indexGoesFirst();
         refusedCallsChangeNothing();
@@ -91,6 +92,81 @@ final class EdgesRefusals extends Edge {
         z.ahead(0);
         is("firstCut behind others", z.firstCut(200), cut);
         is("ifRun behind others", z.ifRun(200, 0), sent);
+    }
+
+    /** What would be is what is, done on another keeper of the same state. */
+    private static void trialsTellWhatWillBe() {
+        terms("What is asked changes nothing.");
+        String one = "target 5;interval 10;quantum 3000;sets 1;ways 1;";
+        String[] texts = {BUSY,
+            // COUNT 3, ROOT 36864, DROPPING.
+            one + "come 1 9 0;".repeat(20) + "pass 5;go 1;pass 10;go 1;pass 9;go 1;pass 5;go 1;",
+            one + "come 1 9 1;come 1 9 0;come 1 9 1;".repeat(9) + "pass 5;go 1;pass 10;go 1;pass 9;go 1;pass 5;go 1;",
+            // NEW and OLD.
+            "quantum 100;come 1 100 0;come 1 100 0;come 5 10 0;come 5 10 0;go 2;come 3 10 0;come 7 10 0;",
+            // A FRAME of the SENDER comes behind another BUCKET of NEW.
+            "sender 5 10 1 1 0;come 1 1 0;come 1 1 0;come 1 1 0;",
+            "rate 7;small 50;limit 9;sender 5 90 9 5 1;sender 3 40 5 9 0;run 20;pass 30;"};
+        for (String text : texts) {
+            for (int n : new int[] {1, 2, 3, 9, 60}) {
+                tryRun(text, n);
+            }
+            for (int e : new int[] {0, 1, 3, 10, 40}) {
+                tryDrain(text, e);
+            }
+        }
+    }
+
+    private static void tryRun(String text, int n) {
+        QueueKeeper x = keeper(text);
+        QueueKeeper y = keeper(text);
+        int sent = y.count(4);
+        int dropped = y.count(5);
+        int cuts = cuts(y);
+        int first = ABSENT;
+        for (int tick = 1; tick <= n; tick++) {
+            y.run(1);
+            first = first == ABSENT && cuts(y) > cuts ? tick : first;
+        }
+        int windows = 0;
+        for (int k = 0; k < y.count(19); k++) {
+            windows += y.sender(k, 2);
+        }
+        is("ifRun(" + n + ", 0) of " + text, x.ifRun(n, 0), y.count(4) - sent);
+        is("ifRun(" + n + ", 1) of " + text, keeper(text).ifRun(n, 1), y.count(5) - dropped);
+        is("ifRun(" + n + ", 4) of " + text, x.ifRun(n, 4), y.count(0));
+        is("ifRun(" + n + ", 5) of " + text, keeper(text).ifRun(n, 5), windows);
+        is("firstCut(" + n + ") of " + text, keeper(text).firstCut(n), first);
+    }
+
+    private static int cuts(QueueKeeper x) {
+        int cuts = 0;
+        for (int k = 0; k < x.count(19); k++) {
+            cuts += x.sender(k, 6);
+        }
+        return cuts;
+    }
+
+    private static void tryDrain(String text, int e) {
+        QueueKeeper x = keeper(text);
+        QueueKeeper y = keeper(text);
+        int sent = y.count(4);
+        int dropped = y.count(5);
+        int marked = y.count(6);
+        while (y.count(2) > 0) {
+            int f = y.go();
+            if (e == 0 && f >= 0) {
+                is("ahead of " + text, x.ahead(y.count(4) - sent - 1), f);
+            }
+            if (e > 0) {
+                y.pass(e);
+            }
+        }
+        is("ahead behind all", e > 0 ? ABSENT : x.ahead(y.count(4) - sent), ABSENT);
+        is("drain(" + e + ", 0) of " + text, x.drain(e, 0), y.count(4) - sent);
+        is("drain(" + e + ", 1) of " + text, keeper(text).drain(e, 1), y.count(5) - dropped);
+        is("drain(" + e + ", 2) of " + text, x.drain(e, 2), y.count(6) - marked);
+        is("drain(" + e + ", 3) of " + text, keeper(text).drain(e, 3), y.count(0));
     }
 
     private static void noneGoesFirst() {

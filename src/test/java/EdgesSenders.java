@@ -407,6 +407,14 @@ final class EdgesSenders extends Edge {
         z.run(1);
         // PUSHED OUT at 0: CUT in the TICK at 99, the 99th from 1 on.
         is("the last of 99", z.firstCut(99), 99);
+        // 11 was MARKED at 11, of which it HEARS at 13; NOW is 12.
+        QueueKeeper w = keeper("target 1;interval 10;quantum 3000;sets 1;ways 1;sender 9 10 20 2 1;run 12;");
+        is("the one MARKED already", w.firstCut(200), 2);
+        // The last of four SENDERS: the only one of which a FRAME is PUSHED OUT.
+        QueueKeeper v = keeper("limit 4;sets 1;ways 4;sender 1 1 1 9 0;sender 2 1 1 9 0;sender 3 1 1 9 0;"
+            + "sender 4 90 2 4 0;");
+        is("the fourth", v.firstCut(6), 5);
+        is("the fourth", v.firstCut(4), ABSENT);
 
         promise(12, "-2: in none;");
         is("firstCut(98)", z.firstCut(98), ABSENT);
@@ -433,6 +441,10 @@ final class EdgesSenders extends Edge {
         QueueKeeper z = keeper("sender 9 10 1 9 0;come 1 9 0;come 1 9 0;come 1 9 0;");
         is("three stand, one comes", z.leastLimit(1), 4);
         is("more TICKS, the same", z.leastLimit(9), 4);
+        // In the second TICK two come, in the third one is left and two come.
+        QueueKeeper v = keeper("sets 1;ways 1;sender 9 10 1 1 0;");
+        is("leastLimit(1)", v.leastLimit(1), 1);
+        is("leastLimit(2)", v.leastLimit(2), 2);
         for (int n : new int[] {1, 7, 60, 200}) {
             String text = "rate 60;sets 1;ways 2;target 3;interval 12;sender 9 100 3 2 0;sender 2 50 2 4 1;";
             int least = 0;
@@ -467,6 +479,16 @@ final class EdgesSenders extends Edge {
         is("bestTarget(1)", x.bestTarget(1), 1);
         is("TARGET stays", x.count(11), 5);
         is("nothing is SENT", new QueueKeeper().bestTarget(200), 1);
+        // By 151 none would be DROPPED, but 99 is the most.
+        QueueKeeper w = keeper("interval 10;quantum 3000;sets 1;ways 1;");
+        come(w, 11, 1, 10, 0);
+        w.pass(150);
+        is("all up to 99 are as good", w.bestTarget(11), 1);
+        // At 0, 1, .., 13: up to 3 ABOVE is 13 or less; by 4 it is 14.
+        QueueKeeper v = keeper("interval 10;quantum 3000;sets 1;ways 1;");
+        come(v, 14, 1, 10, 0);
+        is("one by one", v.bestTarget(14), 4);
+        is("a TICK less: a 14th one is SENT for one DROPPED", v.bestTarget(13), 1);
         // BYTES, not FRAMES: one TARGET more, and none of the big ones is DROPPED.
         QueueKeeper y = keeper("interval 10;quantum 3000;sets 1;ways 1;");
         come(y, 10, 1, 1, 0);

@@ -267,6 +267,10 @@ final class EdgesText extends Edge {
             fault(word.substring(0, word.length() - 1) + " 1;", 1, 0);
             fault(word.substring(1) + " 1;", 1, 0);
             fault(word + "a 1;", 1, 0);
+            fault(word + "z 1;", 1, 0);
+            for (int i = 0; i < word.length(); i++) {
+                fault(word.substring(0, i) + "z" + word.substring(i + 1) + " 1;", 1, 0);
+            }
         }
     }
 
@@ -289,6 +293,15 @@ final class EdgesText extends Edge {
         is("the length is that of the text, not of the tape", x.text(11), NONE);
         is("fault(0)", x.fault(0), 1);
         is("fault(1)", x.fault(1), 11);
+        Check.feed(x, "pass 1;pass 12;");
+        is("a number that goes on behind the text", x.text(13), NONE);
+        is("fault(1)", x.fault(1), 13);
+        Check.feed(x, "pass 1;passs 2;");
+        is("a word that goes on behind the text", x.text(11), NONE);
+        is("fault(1)", x.fault(1), 11);
+        Check.feed(x, "pass 1;pass 12;");
+        is("a word that goes on behind the text", x.text(9), NONE);
+        is("fault(1)", x.fault(1), 7);
         fault("pass 1;limit 3;", 1, 7);
         fault("pass 1;sender 1 1 1 1 0;", 1, 7);
         fault("pass 1;limit 3", 1, 7);
@@ -310,6 +323,12 @@ final class EdgesText extends Edge {
             comes.append("come").append(i % 10).append(" 1 0;");
         }
         fine(comes.toString(), 90);
+        // Those of earlier texts don't count, nor do other LINES.
+        QueueKeeper x = new QueueKeeper();
+        for (int i = 0; i < 3; i++) {
+            is("text " + i, Check.text(x, comes.toString()), 90);
+        }
+        is("225 LINES", Check.text(x, "go1;".repeat(225)), 225);
     }
 
     private static void toldAlready() {
@@ -356,6 +375,16 @@ final class EdgesText extends Edge {
         is("order(0)", x.order(0), ABSENT);
         is("text(1)", x.text(1), ABSENT);
         is("text(0)", x.text(0), 0);
+        // A text makes all anew, so an empty one changes nothing.
+        QueueKeeper y = new QueueKeeper();
+        use(x);
+        use(y);
+        same("without a text", y, x);
+        QueueKeeper z = new QueueKeeper();
+        z.come(5, 1, 0);
+        is("order(0)", z.order(0), 2);
+        is("go", z.go(), 0);
+        is("only one is SENT", z.past(0, 1), ABSENT);
     }
 
     private static void feeding() {
@@ -435,6 +464,33 @@ final class EdgesText extends Edge {
         is("which begins at 0", x.watched(0), 0);
         Check.text(x, busy);
         same("the same text once more", x, keeper(busy));
+        // Frames stand, in NEW and OLD, with ABOVE, DROPPING: nothing of it is left.
+        String late = "target 1;interval 10;quantum 50;sets 4;ways 4;limit 60;sender 4 90 20 2 1;sender 5 60 20 2 0;"
+            + "come 0 30 0;come 1 70 0;come 2 9 0;come 3 9 0;run 40;come 1 9 0;come 3 9 0;";
+        QueueKeeper y = keeper(late);
+        is("some stand", y.count(2) > 9 ? 1 : 0, 1);
+        is("DROPPING", y.bucket(y.bucketFor(4), 7), 1);
+        is("ABOVE", y.bucket(y.bucketFor(4), 9) > 0 ? 1 : 0, 1);
+        is("in OLD", y.bucket(y.bucketFor(4), 4), 2);
+        is("in NEW", y.bucket(y.bucketFor(3), 4), 1);
+        y.text(0);
+        same("nothing is left", y, new QueueKeeper());
+        QueueKeeper z = new QueueKeeper();
+        use(y);
+        use(z);
+        same("nor later on", y, z);
+        // A BUCKET that is the only one of NEW.
+        QueueKeeper w = keeper("come 5 9 0;come 5 9 0;come 5 9 0;pass 6;go 2;");
+        is("ABOVE", w.bucket(2, 9), 106);
+        w.text(0);
+        same("nothing is left of one", w, new QueueKeeper());
+        for (int what = 0; what < 4; what++) {
+            is("flow(5, " + what + ")", w.flow(5, what), what == 2 ? ABSENT : 0);
+        }
+        is("least(2)", w.least(2), ABSENT);
+        w.come(7, 9, 0);
+        w.come(1, 9, 0);
+        Check.dueRow("order", new int[] {w.order(0), w.order(1), w.order(2)}, 2, 0, -2);
         is("LINES of it", Check.text(x, busy), 16);
         is("LINES of blanks", Check.text(x, " \n"), 0);
     }
