@@ -198,7 +198,9 @@ final class EdgesAnswers extends Edge {
         // One that SENDS none, as all are DROPPED, takes e as well.
         QueueKeeper z = keeper(ONE + "come 1 9 0;come 1 9 0;pass 5;go 1;pass 10;");
         is("none is SENT", z.drain(7, 0), 0);
+        is("one is DROPPED", z.drain(7, 1), 1);
         is("NOW", z.drain(7, 3), 22);
+        is("so there is no WAIT of those SENT", z.drain(7, 4), ABSENT);
     }
 
     private static void settles() {
@@ -467,13 +469,25 @@ final class EdgesAnswers extends Edge {
         QueueKeeper y = keeper("target 99;rate 100;quantum 200;come 1 1500 0;come 1 100 0;come 5 1500 0;come 5 1500 0;go 2;");
         is("DEFICIT of 0", y.bucket(0, 3), -1100);
         is("DEFICIT of 2", y.bucket(2, 3), -1300);
-        for (int e : new int[] {0, 1, 999}) {
+        tryQuantums("target 99;rate 100;quantum 200;come 1 1500 0;come 1 100 0;come 5 1500 0;come 5 1500 0;go 2;");
+        // Some are DROPPED by the one QUANTUM, others by the other: their WAITS count for nothing.
+        tryQuantums("target 1;interval 10;rate 90;limit 60;quantum 100;pass 3;" + "come 1 300 0;come 5 70 0;".repeat(9)
+            + "go 3;");
+        tryQuantums("target 2;interval 10;rate 60;limit 60;" + "come 1 90 0;come 5 150 0;come 6 20 0;".repeat(7));
+
+        promise(35, "NONE: no such e.");
+        for (int e : new int[] {-1, 1000, MIN, MAX}) {
+            is("bestQuantum(" + e + ")", x.bestQuantum(e), NONE);
+        }
+    }
+
+    private static void tryQuantums(String text) {
+        for (int e : new int[] {0, 1, 4, 999}) {
             int best = 0;
             long least = Long.MAX_VALUE;
             for (int quantum = 50; quantum <= 3000; quantum += 50) {
-                QueueKeeper z = keeper("target 99;rate 100;quantum 200;come 1 1500 0;come 1 100 0;come 5 1500 0;"
-                    + "come 5 1500 0;go 2;");
-                long before = z.flow(1, 3) + z.flow(5, 3);
+                QueueKeeper z = keeper(text);
+                long before = z.flow(1, 3) + z.flow(5, 3) + z.flow(6, 3);
                 z.settle(2, quantum);
                 while (z.count(2) > 0) {
                     z.go();
@@ -481,18 +495,13 @@ final class EdgesAnswers extends Edge {
                         z.pass(e);
                     }
                 }
-                long waits = z.flow(1, 3) + z.flow(5, 3) - before;
+                long waits = z.flow(1, 3) + z.flow(5, 3) + z.flow(6, 3) - before;
                 if (waits < least) {
                     least = waits;
                     best = quantum;
                 }
             }
-            is("tried one by one, e " + e, y.bestQuantum(e), best);
-        }
-
-        promise(35, "NONE: no such e.");
-        for (int e : new int[] {-1, 1000, MIN, MAX}) {
-            is("bestQuantum(" + e + ")", x.bestQuantum(e), NONE);
+            is("tried one by one, e " + e + ", " + text, keeper(text).bestQuantum(e), best);
         }
     }
 

@@ -102,16 +102,21 @@ final class EdgesRefusals extends Edge {
             // COUNT 3, ROOT 36864, DROPPING.
             one + "come 1 9 0;".repeat(20) + "pass 5;go 1;pass 10;go 1;pass 9;go 1;pass 5;go 1;",
             one + "come 1 9 1;come 1 9 0;come 1 9 1;".repeat(9) + "pass 5;go 1;pass 10;go 1;pass 9;go 1;pass 5;go 1;",
+            // COUNT 3, LAST 1, not DROPPING, and LATE at once.
+            one + "come 1 9 1;".repeat(4) + "pass 5;go 1;pass 10;go 1;pass 9;go 1;pass 5;go 1;" + "come 1 9 0;".repeat(9)
+                + "pass 1;go 1;pass 4;go 1;pass 10;",
+            // What comes stands behind the last one of two.
+            "sets 1;ways 1;sender 9 10 3 1 0;run 1;",
             // NEW and OLD.
             "quantum 100;come 1 100 0;come 1 100 0;come 5 10 0;come 5 10 0;go 2;come 3 10 0;come 7 10 0;",
             // A FRAME of the SENDER comes behind another BUCKET of NEW.
             "sender 5 10 1 1 0;come 1 1 0;come 1 1 0;come 1 1 0;",
             "rate 7;small 50;limit 9;sender 5 90 9 5 1;sender 3 40 5 9 0;run 20;pass 30;"};
         for (String text : texts) {
-            for (int n : new int[] {1, 2, 3, 9, 60}) {
+            for (int n : new int[] {1, 2, 3, 4, 5, 6, 7, 8, 9, 60}) {
                 tryRun(text, n);
             }
-            for (int e : new int[] {0, 1, 3, 10, 40}) {
+            for (int e : new int[] {0, 1, 3, 7, 10, 40}) {
                 tryDrain(text, e);
             }
         }

@@ -115,6 +115,7 @@ final class EdgesSenders extends Edge {
             x.run(1);
             is("WINDOW", x.sender(0, 2), window);
         }
+        is("10000 by 137 is just below 73", grownFrom137(), 137 + 72);
         QueueKeeper y = keeper(CALM + "sender 9 10 20 1 0;run 5;");
         is("HEARD of four", y.sender(0, 8), 4);
         is("2000 at most", y.sender(0, 2), 2000);
@@ -124,6 +125,29 @@ final class EdgesSenders extends Edge {
         z.run(1);
         is("no more", z.sender(0, 2), 2000);
         is("twenty are OUT", z.sender(0, 5), 20);
+    }
+
+    /** Key 8 is SERVED first, key 9 has the most BYTES: three of 9 are PUSHED OUT, then one is SENT. */
+    private static int grownFrom137() {
+        QueueKeeper x = keeper("target 99;quantum 3000;sets 1;ways 2;limit 60;sender 9 100 11 1 0;"
+            + "come 8 1 0;".repeat(6) + "run 1;");
+        int[] windows = {1100, 550, 275};
+        for (int window : windows) {
+            x.settle(3, x.count(2));
+            x.come(8, 1, 0);
+            x.settle(3, 60);
+            x.run(1);
+            is("half", x.sender(0, 2), window);
+        }
+        x.run(1);
+        is("half of 275, downwards", x.sender(0, 2), 137);
+        while (x.flow(9, 0) == 0) {
+            x.go();
+        }
+        x.pass(1);
+        x.run(1);
+        is("HEARD", x.sender(0, 8), 4);
+        return x.sender(0, 2);
     }
 
     /** Five came, 0 was SENT at 0; frames of others stand behind, so that one more pushes 1 out. */
@@ -363,7 +387,7 @@ final class EdgesSenders extends Edge {
             + "OUT, 4 NOW then, 5 WINDOWS together then;");
         String[] texts = {"target 1;interval 10;limit 9;sets 1;ways 2;sender 9 300 12 2 0;sender 4 90 9 3 1;run 30;",
             "rate 30;target 1;interval 10;limit 5;sender 9 300 12 2 1;sender 5 200 3 3 0;sender 6 1 20 1 0;run 9;",
-            "come 1 9 0;pass 9;come 1 9 0;", ""};
+            "come 1 9 0;pass 9;come 1 9 0;", "sets 1;ways 1;sender 9 10 3 1 0;run 1;", ""};
         for (String text : texts) {
             for (int n : new int[] {1, 2, 50, 200}) {
                 QueueKeeper x = keeper(text);

@@ -488,9 +488,17 @@ final class EdgesText extends Edge {
             is("flow(5, " + what + ")", w.flow(5, what), what == 2 ? ABSENT : 0);
         }
         is("least(2)", w.least(2), ABSENT);
+        come(w, 5, 1, 9, 0);
+        is("nothing stands in 2", w.inBucket(2, 0), ABSENT);
+        is("nothing waits in 2", w.eldest(2, 0), ABSENT);
         w.come(7, 9, 0);
-        w.come(1, 9, 0);
-        Check.dueRow("order", new int[] {w.order(0), w.order(1), w.order(2)}, 2, 0, -2);
+        Check.dueRow("order", new int[] {w.order(0), w.order(1), w.order(2)}, 0, 2, -2);
+        Check.dueRow("bucket 0", new int[] {w.inBucket(0, 0), w.inBucket(0, 4), w.inBucket(0, 5)}, 0, 4, -2);
+        Check.dueRow("bucket 2", new int[] {w.inBucket(2, 0), w.inBucket(2, 1)}, 5, -2);
+        QueueKeeper v = keeper("come 5 9 0;come 5 9 0;");
+        v.text(0);
+        v.come(7, 9, 0);
+        Check.dueRow("order", new int[] {v.order(0), v.order(1)}, 2, -2);
         is("LINES of it", Check.text(x, busy), 16);
         is("LINES of blanks", Check.text(x, " \n"), 0);
     }
