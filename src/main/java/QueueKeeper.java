@@ -230,7 +230,7 @@ public final class QueueKeeper {
     }
 
     public int frame(int f, int what) {
-        return world.frames.has(f) ? world.frames.tell(f, what) : NONE;
+        return world.frames.tell(f, what);
     }
 
     public int past(int what, int i) {
@@ -252,7 +252,7 @@ public final class QueueKeeper {
     }
 
     public int least(int k) {
-        return world.hasBucket(k) ? world.leastTaken(k) : NONE;
+        return world.leastTaken(k);
     }
 
     public int rootBy(int n) {
@@ -764,8 +764,10 @@ public final class QueueKeeper {
             return f;
         }
 
+        /** Looks at f without has(): it stands eight calls deep already. */
         void end(int f, int itsFate, int now) {
-            if (f < 0 || f >= size || endedSize >= FRAMES_MOST) {
+            boolean isThere = f >= 0 && f < size && f < FRAMES_MOST;
+            if (!isThere || endedSize >= FRAMES_MOST || itsFate < 0 || itsFate >= TALLIES) {
                 return;
             }
             fate[f] = itsFate;
@@ -779,7 +781,16 @@ public final class QueueKeeper {
             return i >= 0 && i < endedSize && i < FRAMES_MOST ? ended[i] : ABSENT;
         }
 
+        /** The frame that left as the i-th, if it was sent. */
+        private int sentOne(int i) {
+            int f = endedOne(i);
+            return has(f) && fate[f] == SENT ? f : ABSENT;
+        }
+
         int tell(int f, int what) {
+            if (!has(f)) {
+                return NONE;
+            }
             switch (what) {
                 case 0: return key[f];
                 case 1: return bytes[f];
@@ -806,9 +817,8 @@ public final class QueueKeeper {
         int endedAs(int kind, int i) {
             int left = i;
             for (int e = 0; e < endedSize; e++) {
-                int f = ended[e];
-                boolean isOfKind = kind == MARKED ? marked[f] == 1 : fate[f] == kind;
-                if (isOfKind) {
+                int f = endedOne(e);
+                if (has(f) && (kind == MARKED ? marked[f] == 1 : fate[f] == kind)) {
                     if (left == 0) {
                         return f;
                     }
@@ -866,8 +876,9 @@ public final class QueueKeeper {
         int bytesSentFrom(int i) {
             int sum = 0;
             for (int e = Math.max(i, 0); e < endedSize; e++) {
-                if (fate[ended[e]] == SENT) {
-                    sum += bytes[ended[e]];
+                int f = sentOne(e);
+                if (has(f)) {
+                    sum += bytes[f];
                 }
             }
             return sum;
@@ -876,8 +887,9 @@ public final class QueueKeeper {
         int waitsFrom(int i) {
             int sum = 0;
             for (int e = Math.max(i, 0); e < endedSize; e++) {
-                if (fate[ended[e]] == SENT) {
-                    sum += waitOf(ended[e]);
+                int f = sentOne(e);
+                if (has(f)) {
+                    sum += waitOf(f);
                 }
             }
             return sum;
@@ -886,8 +898,9 @@ public final class QueueKeeper {
         int greatestWaitFrom(int i) {
             int greatest = ABSENT;
             for (int e = Math.max(i, 0); e < endedSize; e++) {
-                if (fate[ended[e]] == SENT) {
-                    greatest = Math.max(greatest, waitOf(ended[e]));
+                int f = sentOne(e);
+                if (has(f)) {
+                    greatest = Math.max(greatest, waitOf(f));
                 }
             }
             return greatest;
@@ -1350,7 +1363,7 @@ public final class QueueKeeper {
         /** The first frame of a bucket stands there no more. */
         private int unlink(Bucket bucket) {
             int f = bucket.first;
-            if (f < 0 || f >= FRAMES_MOST) {
+            if (f < 0 || f >= frames.size || f >= FRAMES_MOST) {
                 return ABSENT;
             }
             bucket.first = frames.behind[f];
@@ -1438,7 +1451,7 @@ public final class QueueKeeper {
         private int take(Bucket bucket) {
             int f = unlink(bucket);
             late = false;
-            if (f < 0) {
+            if (!frames.has(f)) {
                 bucket.above = ABSENT;
                 return f;
             }
@@ -1503,7 +1516,7 @@ public final class QueueKeeper {
         }
 
         private void mark(int f) {
-            if (frames.marked[f] == 0) {
+            if (frames.has(f) && frames.marked[f] == 0) {
                 frames.marked[f] = 1;
                 frames.tally[MARKED]++;
                 watches.note(WATCH_MARKED, frames.bytes[f]);
@@ -1570,8 +1583,11 @@ public final class QueueKeeper {
         }
 
         int leastTaken(int k) {
+            if (!hasBucket(k)) {
+                return NONE;
+            }
             int least = NEVER;
-            for (int f = buckets[k].since; f < frames.size; f++) {
+            for (int f = Math.max(buckets[k].since, 0); f < frames.size; f++) {
                 boolean isTaken = frames.fate[f] == SENT || frames.fate[f] == DROPPED;
                 if (frames.place[f] == k && isTaken && now - frames.when[f] < settings[INTERVAL]) {
                     least = Math.min(least, frames.waitOf(f));
@@ -1610,8 +1626,8 @@ public final class QueueKeeper {
         }
 
         private int tallyOf(int what) {
-            return what < 0 || what >= PAST_KINDS.length ? NONE
-                : world.frames.tally[PAST_KINDS[what]];
+            int kind = what < 0 || what >= PAST_KINDS.length ? NONE : PAST_KINDS[what];
+            return kind < 0 || kind >= TALLIES ? NONE : world.frames.tally[kind];
         }
 
         int tickOfFirstCut(World real, int n) {

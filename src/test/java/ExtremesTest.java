@@ -1,13 +1,16 @@
 import java.lang.management.ManagementFactory;
+import java.lang.reflect.Array;
+import java.lang.reflect.Field;
 import java.lang.reflect.InvocationTargetException;
 import java.lang.reflect.Method;
+import java.lang.reflect.Modifier;
 import java.util.ArrayList;
 import java.util.Comparator;
 import java.util.List;
 import java.util.NoSuchElementException;
 import java.util.Random;
 
-/** Any arguments in any state: nothing but bucket's two exceptions, and nothing made by a call. */
+/** Any arguments in any state: nothing but bucket's two exceptions; little room, and no more by calls. */
 public final class ExtremesTest {
     private static final int[] NUMBERS = {Integer.MIN_VALUE, Integer.MIN_VALUE + 1, -65536, -201, -3, -2, -1, 0, 1,
         2, 3, 4, 5, 9, 10, 11, 15, 16, 17, 19, 20, 60, 61, 98, 99, 100, 199, 200, 201, 900, 901, 999, 1000, 1500,
@@ -24,6 +27,7 @@ public final class ExtremesTest {
         neverThrows();
         makesNothing();
         dearestCalls();
+        roomOfOne();
         Check.finish("ExtremesTest");
     }
 
@@ -105,5 +109,34 @@ public final class ExtremesTest {
         }
         long seconds = (System.nanoTime() - begin) / 1_000_000_000;
         Check.due("dear calls end soon, not in " + seconds + " s", seconds < 60 ? 1 : 0, 1);
+    }
+
+    /** Of a room of 600,000 objects with 7.3 million places, one keeper takes less than a 500th. */
+    private static void roomOfOne() throws IllegalAccessException {
+        int[] taken = {0, 0};
+        measure(new QueueKeeper(), taken);
+        Check.due("objects of one: " + taken[0], taken[0] > 0 && taken[0] <= 1200 ? 1 : 0, 1);
+        Check.due("places of one: " + taken[1], taken[1] > 0 && taken[1] <= 14600 ? 1 : 0, 1);
+    }
+
+    /** Objects and arrays, then their fields and elements; no object is held twice. */
+    private static void measure(Object holder, int[] taken) throws IllegalAccessException {
+        taken[0]++;
+        if (holder.getClass().isArray()) {
+            taken[1] += Array.getLength(holder);
+            for (int i = 0; !holder.getClass().getComponentType().isPrimitive() && i < Array.getLength(holder); i++) {
+                measure(Array.get(holder, i), taken);
+            }
+            return;
+        }
+        for (Field f : holder.getClass().getDeclaredFields()) {
+            if (!Modifier.isStatic(f.getModifiers())) {
+                taken[1]++;
+                f.setAccessible(true);
+                if (!f.getType().isPrimitive()) {
+                    measure(f.get(holder), taken);
+                }
+            }
+        }
     }
 }
